@@ -302,7 +302,7 @@ public final class TracedCode {
             return registers;
         }
 
-        /** The line next to this one that is not simply the one behind; for most lines it is. */
+        /** The line to which a JUMP leads; for any other line the one behind. */
         int target(int line) {
             return numbers[0][line] == JUMP ? Math.min(numbers[2][line], size) : line + 1;
         }

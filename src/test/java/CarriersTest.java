@@ -124,6 +124,11 @@ public final class CarriersTest {
         where(loop, 3, 0, TracedCode.NONE);
         where(loop, 9, 0, 2);
         where(loop, 10, 0, 2);
+        // What is lost before a jump is lost behind it, taken or not.
+        String inside = "OUT 0; JUMP 1 3; OUT 1; ADD 0 0 1; JUMP 2 0";
+        carriers(inside, 1, 3, 63 - 1);
+        carriers(inside, 2, 3, 63 - 1);
+        carriers(inside, 3, 3, 63 - 1);
     }
 
     private static void constantsOfSeveralSteps() {

@@ -193,6 +193,10 @@ public final class RunTest {
         Programs.steps(constant, 4);
         Checks.due("read of a constant", -5, () -> constant.read(2));
         Checks.due("read of another constant", 9, () -> constant.read(1));
+        TracedCode passed = Programs.shortened("SET 0 5; COPY 3 0; SET 0 6; NAME 1 3; NAME 2 0");
+        Programs.steps(passed, 5);
+        Checks.due("read of a constant by a copy", 5, () -> passed.read(1));
+        Checks.due("read of the one that came behind it", 6, () -> passed.read(2));
         // Not by all ways: it has a value then, but is not found.
         TracedCode ways = Programs.shortened("JUMP 0 2; OUT 1; NAME 0 1; JUMP 2 1");
         Programs.steps(ways, 3);
