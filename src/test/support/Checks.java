@@ -7,8 +7,27 @@ public final class Checks {
 
     private static int done = 0;
     private static int wrong = 0;
+    private static int sentences = 0;
+    private static String sentence = "";
+    private static int doneBefore = 0;
 
     private Checks() {
+    }
+
+    /** Says which sentence of the document the checks that follow are of. */
+    public static void sentence(String text) {
+        endSentence();
+        sentences++;
+        sentence = text;
+        doneBefore = done;
+    }
+
+    /** A sentence that nothing was checked of would pass unseen. */
+    private static void endSentence() {
+        if (!sentence.isEmpty() && done == doneBefore) {
+            wrong++;
+            System.out.println("[" + sentence + "] nothing checked");
+        }
     }
 
     /** The answer as a text; an exception as throws.Name. */
@@ -28,12 +47,15 @@ public final class Checks {
         done++;
         if (!String.valueOf(want).equals(String.valueOf(got))) {
             wrong++;
-            System.out.println(what + " answered " + got + ", due is " + want);
+            String of = sentence.isEmpty() ? "" : "[" + sentence + "] ";
+            System.out.println(of + what + " answered " + got + ", due is " + want);
         }
     }
 
     public static void finish() {
-        System.out.println(done + " checks, " + wrong + " wrong");
+        endSentence();
+        String of = sentences == 0 ? "" : sentences + " sentences, ";
+        System.out.println(of + done + " checks, " + wrong + " wrong");
         if (wrong != 0 || done == 0) {
             System.exit(1);
         }

@@ -8,7 +8,11 @@ public final class Programs {
 
     /** A new object with the lines of a text, such as "SET 0 7; OUT 0". */
     public static TracedCode written(String text) {
-        TracedCode x = new TracedCode();
+        return onto(new TracedCode(), text);
+    }
+
+    /** The lines of a text behind those that an object has. */
+    public static TracedCode onto(TracedCode x, String text) {
         for (String line : text.split(";")) {
             if (!line.isBlank()) {
                 append(x, line);
@@ -17,7 +21,12 @@ public final class Programs {
         return x;
     }
 
-    /** As above, shortened. */
+    /** The text of as many equal lines. */
+    public static String times(int count, String line) {
+        return (line + "; ").repeat(count);
+    }
+
+    /** As written, shortened. */
     public static TracedCode shortened(String text) {
         TracedCode x = written(text);
         x.shorten();
@@ -69,6 +78,13 @@ public final class Programs {
             }
         }
         return text.toString();
+    }
+
+    /** A run, so many steps after its beginning. */
+    public static TracedCode run(String text, int count) {
+        TracedCode x = shortened(text);
+        steps(x, count);
+        return x;
     }
 
     public static void steps(TracedCode x, int count) {
