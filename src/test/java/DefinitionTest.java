@@ -1,32 +1,55 @@
 import java.util.Arrays;
 
 /**
- * Many programs, made by a fixed sequence of numbers: the answers of promises 9 to 13 against the
- * document's definitions, and promises 15 to 20 against a plain run of the program. A variable that
- * is found is read as it is in the program, and both programs put out the same. The document stops
- * at 512 calls of an object; the class has no such limit, and this test makes use of that.
+ * Many programs, made by a fixed sequence of numbers: every answer of promises 9 to 20 on them against
+ * Model, and so against the document's definitions. Besides, a variable that is found is read as it is
+ * in the program, and both programs put out the same. The document stops at 512 calls of an object;
+ * the class has no such limit, and this test makes use of that.
  */
 public final class DefinitionTest {
     private static final int PROGRAMS = 6000;
     private static long seed = 20261115;
-    private static int compared = 0;
     private static int mostRounds = 0;
     private static int found = 0;
 
     public static void main(String[] args) {
         TracedCode used = new TracedCode();
         for (int i = 0; i < PROGRAMS; i++) {
-            int[][] program = made(i);
+            int[][] program = made();
             TracedCode x = i % 2 == 0 ? new TracedCode() : used;
-            x.clear();
-            write(x, program);
-            compare(x, program);
-            runThrough(x, program);
+            Both both = new Both(x, Arrays.deepToString(program));
+            both.call("clear", 0, 0, 0);
+            for (int[] line : program) {
+                both.call(Model.CALLS[line[0]], line[1], line[2], line[3]);
+            }
+            compare(both, program.length);
+            runThrough(both, x);
         }
-        System.out.println(compared + " of " + PROGRAMS + " programs compared point by point, at most "
-                + mostRounds + " rounds, " + found + " readings of found variables");
-        Checks.same("enough compared", true, compared > PROGRAMS / 2 && found > PROGRAMS && mostRounds > 3);
+        System.out.println(PROGRAMS + " programs, at most " + mostRounds + " rounds, " + found + " readings of found variables");
+        Checks.same("enough seen", true, found > PROGRAMS && mostRounds > 3);
         Checks.finish();
+    }
+
+    /** An object and the model of it, on which the same calls are made. */
+    private static final class Both {
+        private final TracedCode x;
+        private final Model model = new Model();
+        private final String program;
+
+        Both(TracedCode x, String program) {
+            this.x = x;
+            this.program = program;
+        }
+
+        String call(String name, int a, int b, int c) {
+            int call = Arrays.asList(Model.CALLS).indexOf(name);
+            String due = model.due(call, a, b, c);
+            String got = Checks.answer(() -> Model.make(x, call, a, b, c));
+            if (!due.equals(got)) {
+                Checks.same(name + "(" + a + ", " + b + ", " + c + ") of " + program, due, got);
+            }
+            return got;
+        }
     }
 
     private static int below(int bound) {
@@ -35,7 +58,7 @@ public final class DefinitionTest {
     }
 
     /** Programs of several tempers: few registers, many copies, many jumps. */
-    private static int[][] made(int i) {
+    private static int[][] made() {
         int registers = 2 + below(5);
         int copies = below(4);
         int jumps = below(3);
@@ -55,105 +78,46 @@ public final class DefinitionTest {
         return program;
     }
 
-    private static void write(TracedCode x, int[][] program) {
-        String[] kinds = {"SET ", "COPY ", "ADD ", "OUT ", "JUMP ", "NAME "};
-        for (int[] line : program) {
-            Programs.append(x, kinds[line[0]] + line[1] + " " + line[2] + " " + line[3]);
+    private static void compare(Both both, int n) {
+        mostRounds = Math.max(mostRounds, Integer.parseInt(both.call("shorten", 0, 0, 0)));
+        both.call("kept", 0, 0, 0);
+        for (int p = 0; p < n; p++) {
+            for (int i = 0; i < 4; i++) {
+                both.call("part", p, i, 0);
+            }
         }
-    }
-
-    private static void compare(TracedCode x, int[][] program) {
-        String text = Arrays.deepToString(program);
-        Definition due = new Definition(program);
-        Checks.due("shorten of " + text, due.rounds, () -> x.shorten());
-        mostRounds = Math.max(mostRounds, due.rounds);
-        int kept = 0;
-        for (int p = 0; p < program.length; p++) {
-            int[] got = {x.part(p, 0), x.part(p, 1), x.part(p, 2), x.part(p, 3)};
-            Checks.same("line " + p + " of " + text, Arrays.toString(due.brief[p]), Arrays.toString(got));
-            kept += got[0] == -1 ? 0 : 1;
-        }
-        Checks.same("kept of " + text, kept, x.kept());
-        int[][][] table = due.table();
-        if (table == null) {
-            return;
-        }
-        compared++;
-        for (int p = 0; p <= program.length; p++) {
+        for (int p = 0; p <= n; p++) {
             for (int r = 0; r < 6; r++) {
-                Checks.same("carriers(" + p + ", " + r + ") of " + text, table[p][r][0], x.carriers(p, r));
+                both.call("carriers", p, r, 0);
             }
             for (int v = 0; v < 3; v++) {
-                Checks.same("where(" + p + ", " + v + ") of " + text, place(table[p][6 + v]), x.where(p, v));
+                both.call("where", p, v, 0);
             }
         }
     }
 
-    private static int place(int[] facts) {
-        if (facts[0] != 0) {
-            return Integer.numberOfTrailingZeros(facts[0]);
-        }
-        return facts[1] == 1 ? 6 : -1;
-    }
-
-    private static void runThrough(TracedCode x, int[][] program) {
-        String text = Arrays.deepToString(program);
-        int[] registers = new int[6];
-        Integer[] values = new Integer[3];
-        int at = 0;
-        int outputs = 0;
-        for (int steps = 0; steps <= 200; steps++) {
-            Checks.same("line of " + text, at, x.line());
-            compareVariables(x, values, text);
+    private static void runThrough(Both both, TracedCode x) {
+        boolean goesOn = true;
+        for (int steps = 0; goesOn && steps <= 200; steps++) {
+            both.call("line", 0, 0, 0);
             for (int r = 0; r < 6; r++) {
-                Checks.same("register of " + text, registers[r], x.register(r, false));
+                both.call("register", r, 0, 0);
+                both.call("register", r, 1, 0);
             }
-            if (at == program.length || steps == 200) {
-                Checks.same("last step of " + text, -1, x.step());
-                break;
+            for (int v = 0; v < 3; v++) {
+                String value = both.call("value", v, 0, 0);
+                String read = both.call("read", v, 0, 0);
+                if (x.where(x.line(), v) != TracedCode.NONE) {
+                    found++;
+                    Checks.same("read of a variable that is found in " + both.program, value, read);
+                }
             }
-            int[] line = program[at];
-            at = next(program, at, registers);
-            if (line[0] == 5) {
-                values[line[1]] = registers[line[2]];
-            }
-            Checks.same("step of " + text, at, x.step());
-            if (line[0] == 3) {
-                Checks.same("output of " + text, registers[line[1]], x.output(outputs, false));
-                Checks.same("short output of " + text, registers[line[1]], x.output(outputs, true));
-                outputs++;
-            }
+            goesOn = !both.call("step", 0, 0, 0).equals("-1");
         }
-    }
-
-    private static int next(int[][] program, int at, int[] registers) {
-        int[] line = program[at];
-        switch (line[0]) {
-            case 0:
-                registers[line[1]] = line[2];
-                break;
-            case 1:
-                registers[line[1]] = registers[line[2]];
-                break;
-            case 2:
-                registers[line[1]] = registers[line[2]] + registers[line[3]];
-                break;
-            case 4:
-                return registers[line[1]] == 0 ? Math.min(line[2], program.length) : at + 1;
-            default:
-                break;
-        }
-        return at + 1;
-    }
-
-    private static void compareVariables(TracedCode x, Integer[] values, String text) {
-        for (int v = 0; v < 3; v++) {
-            int given = v;
-            String value = values[v] == null ? "throws.IllegalStateException" : values[v].toString();
-            Checks.due("value of " + text, value, () -> x.value(given));
-            boolean isFound = x.where(x.line(), v) != -1;
-            found += isFound ? 1 : 0;
-            Checks.due("read of " + text, isFound ? value : "throws.NoSuchElementException", () -> x.read(given));
+        String output = "";
+        for (int k = 0; k <= 200 && !output.startsWith("throws"); k++) {
+            output = both.call("output", k, 0, 0);
+            Checks.same("short output " + k + " of " + both.program, output, both.call("output", k, 1, 0));
         }
     }
 }

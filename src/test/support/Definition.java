@@ -202,7 +202,7 @@ public final class Definition {
         state.set(4 * x + 3, 0);
     }
 
-    /** All that the ways bring to each point; null when that is too much to go through. */
+    /** All that the ways bring to each point. */
     private List<Set<List<Integer>>> byAllWays() {
         List<Set<List<Integer>>> seen = new ArrayList<>();
         for (int p = 0; p <= program.length; p++) {
@@ -218,7 +218,7 @@ public final class Definition {
                 continue;
             }
             if (++count > MOST_STATES) {
-                return null;
+                throw new UnsupportedOperationException("too many ways to go through");
             }
             if (p < program.length) {
                 List<Integer> after = behind(state, p);
@@ -237,9 +237,6 @@ public final class Definition {
      */
     public int[][][] table() {
         List<Set<List<Integer>>> ways = byAllWays();
-        if (ways == null) {
-            return null;
-        }
         int[][][] table = new int[program.length + 1][9][];
         for (int p = 0; p <= program.length; p++) {
             for (int x = 0; x < 9; x++) {
