@@ -304,7 +304,10 @@ public final class TracedCode {
 
         /** The line to which a JUMP leads; for any other line the one behind. */
         int target(int line) {
-            return numbers[0][line] == JUMP ? Math.min(numbers[2][line], size) : line + 1;
+            if (numbers[0][line] != JUMP) {
+                return line + 1;
+            }
+            return numbers[2][line] < size ? numbers[2][line] : size;
         }
     }
 
